@@ -164,9 +164,14 @@ public final class RoommateHouse {
 
     /** The persons and their lists. */
     private static final class Wishes {
+        private static final int SINGLE = MOST_PERSONS;
+        private static final int NOT_POSSIBLE = MOST_PERSONS + 1;
+
         private final int[] lengths = new int[MOST_PERSONS];
         private final int[][] others = new int[MOST_PERSONS][MOST_PERSONS];
         private final int[][] places = new int[MOST_PERSONS][MOST_PERSONS];
+        /** The less, the better: possible ones by their place, then oneself, then all others. */
+        private final int[][] standings = new int[MOST_PERSONS][MOST_PERSONS];
         private int count;
         private int changes;
 
@@ -197,6 +202,7 @@ public final class RoommateHouse {
                 lengths[person] = 0;
                 for (int other = 0; other < MOST_PERSONS; other++) {
                     places[person][other] = NONE;
+                    standings[person][other] = person == other ? SINGLE : NOT_POSSIBLE;
                 }
             }
             changes++;
@@ -206,17 +212,24 @@ public final class RoommateHouse {
             int end = lengths[person];
             lengths[person] = end + 1;
             set(person, end, other);
-            changes++;
+            noteChange(person);
         }
 
         void cut(int person, int i) {
-            int last = lengths[person] - 1;
-            shift(person, i, last);
-            places[person][others[person][last]] = NONE;
-            lengths[person] = last;
+            int end = lengths[person] - 1;
+            int gone = others[person][i];
+            slide(person, i, end);
+            lengths[person] = end;
+            places[person][gone] = NONE;
+            noteChange(person);
         }
 
         void shift(int person, int from, int to) {
+            slide(person, from, to);
+            noteChange(person);
+        }
+
+        private void slide(int person, int from, int to) {
             int moved = others[person][from];
             for (int i = from; i < to; i++) {
                 set(person, i, others[person][i + 1]);
@@ -225,7 +238,6 @@ public final class RoommateHouse {
                 set(person, i, others[person][i - 1]);
             }
             set(person, to, moved);
-            changes++;
         }
 
         private void set(int person, int i, int other) {
@@ -233,21 +245,41 @@ public final class RoommateHouse {
             places[person][other] = i;
         }
 
+        /** A person's list bears on both sides, because possible is who is on each other's. */
+        private void noteChange(int person) {
+            for (int other = 0; other < MOST_PERSONS; other++) {
+                if (other != person) {
+                    boolean both = places[person][other] != NONE && places[other][person] != NONE;
+                    standings[person][other] = both ? places[person][other] : NOT_POSSIBLE;
+                    standings[other][person] = both ? places[other][person] : NOT_POSSIBLE;
+                }
+            }
+            changes++;
+        }
+
         boolean arePossible(int one, int other) {
-            return places[one][other] != NONE && places[other][one] != NONE;
+            return standings[one][other] < SINGLE;
         }
 
-        /** Whether a person prefers a possible one to what it has: a possible one, or itself. */
-        boolean prefers(int person, int possible, int had) {
-            return had == person || places[person][possible] < places[person][had];
+        /** Whether a person prefers somebody to one whom it may have: a possible one, or itself. */
+        boolean prefers(int person, int somebody, int had) {
+            return standings[person][somebody] < standings[person][had];
         }
 
-        /** Whether two that have what is told would rather have each other. */
-        boolean wouldBlock(int one, int hadByOne, int other, int hadByOther) {
-            return one != other
-                    && arePossible(one, other)
-                    && prefers(one, other, hadByOne)
-                    && prefers(other, one, hadByOther);
+        /** Whether two, each of which has somebody or itself, would rather have each other. */
+        boolean wouldBlock(int one, int other, int[] had) {
+            return standings[one][other] < standings[one][had[one]]
+                    && standings[other][one] < standings[other][had[other]];
+        }
+
+        /** Whether a person would block with any of those who have somebody by now. */
+        boolean wouldBlockWithAny(int person, int[] had) {
+            for (int other = 0; other < count; other++) {
+                if (had[other] != NONE && wouldBlock(person, other, had)) {
+                    return true;
+                }
+            }
+            return false;
         }
     }
 
@@ -289,15 +321,11 @@ public final class RoommateHouse {
             mates[person] = person;
         }
 
-        private boolean isBlockedBy(int one, int other) {
-            return wishes.wouldBlock(one, mates[one], other, mates[other]);
-        }
-
         int countBlocking() {
             int found = 0;
             for (int lesser = 0; lesser < wishes.count(); lesser++) {
                 for (int greater = lesser + 1; greater < wishes.count(); greater++) {
-                    if (isBlockedBy(lesser, greater)) {
+                    if (wishes.wouldBlock(lesser, greater, mates)) {
                         found++;
                     }
                 }
@@ -308,7 +336,7 @@ public final class RoommateHouse {
         int joinFirstBlocking() {
             for (int lesser = 0; lesser < wishes.count(); lesser++) {
                 for (int greater = lesser + 1; greater < wishes.count(); greater++) {
-                    if (isBlockedBy(lesser, greater)) {
+                    if (wishes.wouldBlock(lesser, greater, mates)) {
                         join(lesser, greater);
                         return lesser * MOST_PERSONS + greater;
                     }
@@ -423,21 +451,12 @@ public final class RoommateHouse {
         private void searchWith(int person, int other) {
             tried[person] = other;
             tried[other] = person;
-            if (!isBlockedAt(person) && !isBlockedAt(other)) {
+            if (!wishes.wouldBlockWithAny(person, tried)
+                    && !wishes.wouldBlockWithAny(other, tried)) {
                 search(person + 1);
             }
             tried[person] = NONE;
             tried[other] = NONE;
-        }
-
-        private boolean isBlockedAt(int person) {
-            for (int other = 0; other < wishes.count(); other++) {
-                if (tried[other] != NONE
-                        && wishes.wouldBlock(person, tried[person], other, tried[other])) {
-                    return true;
-                }
-            }
-            return false;
         }
 
         private void keep() {
@@ -524,8 +543,8 @@ public final class RoommateHouse {
             }
             followers[person] = follower;
             leaders[follower] = person;
-            if (keepsOrder(person) && keepsOrder(follower) && !isBlockedAt(follower)
-                    && search(person + 1)) {
+            if (keepsOrder(person) && keepsOrder(follower)
+                    && !wishes.wouldBlockWithAny(follower, leaders) && search(person + 1)) {
                 return true;
             }
             followers[person] = NONE;
@@ -537,18 +556,8 @@ public final class RoommateHouse {
         private boolean keepsOrder(int person) {
             int follower = followers[person];
             int leader = leaders[person];
-            return follower == NONE || leader == NONE || leader == person
+            return follower == NONE || leader == NONE
                     || !wishes.prefers(person, leader, follower);
-        }
-
-        private boolean isBlockedAt(int person) {
-            for (int other = 0; other < wishes.count(); other++) {
-                if (leaders[other] != NONE
-                        && wishes.wouldBlock(person, leaders[person], other, leaders[other])) {
-                    return true;
-                }
-            }
-            return false;
         }
 
         private void measureAll() {

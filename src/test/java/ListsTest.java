@@ -35,6 +35,8 @@ public final class ListsTest {
     private static void peopleStartAnew() {
         RoommateHouse house = Houses.of("12", "20", "01");
         house.pair(0, 1);
+        CHECK.is("no matching is stable before", 0, house::matchings);
+        CHECK.is("one odd party before", 1, () -> house.parties(false));
         CHECK.is("people answers the count before", 3, () -> house.people(3));
         CHECK.is("size stays", 3, house::size);
         for (int person = 0; person < 3; person++) {
