@@ -8,15 +8,15 @@ public final class RandomRunsTest {
     private static final Check CHECK = new Check();
     private static final int CALLS = 512;
 
-    private static final String[] NAMES = {"put", "remove", "move", "at", "place", "pair", "partner",
-        "blocking", "satisfy", "size", "matchings", "matched", "extreme", "together", "party",
-        "next", "parties", "astray", "together with itself"};
+    private static final String[] NAMES = {"put", "remove", "move", "at", "place", "pair",
+        "partner", "blocking", "satisfy", "size", "matchings", "matched", "extreme", "together",
+        "party", "next", "parties", "astray", "together with itself"};
 
     private final long seed;
     private final Random random;
     private final int most;
-    private final RoommateHouse house = new RoommateHouse();
-    private final SlowHouse slow = new SlowHouse();
+    private final House house = new ProgramHouse();
+    private final House slow = new SlowHouse();
     private int left = CALLS;
 
     private RandomRunsTest(long seed, int most) {
@@ -99,8 +99,8 @@ public final class RandomRunsTest {
         boolean flag = random.nextBoolean();
         int j = place();
         String name = NAMES[kind] + " of (" + a + "," + b + "," + i + "," + j + "," + flag + ")";
-        compare(name, Check.answer(() -> askHouse(kind, a, b, i, j, flag)),
-                Check.answer(() -> askSlow(kind, a, b, i, j, flag)));
+        compare(name, Check.answer(() -> ask(house, kind, a, b, i, j, flag)),
+                Check.answer(() -> ask(slow, kind, a, b, i, j, flag)));
     }
 
     /** Behind a wrong answer the two houses may differ, so the run ends there. */
@@ -111,7 +111,8 @@ public final class RandomRunsTest {
         }
     }
 
-    private int askHouse(int kind, int a, int b, int i, int j, boolean flag) {
+    private static int ask(House house, int kind, int a, int b, int i, int j,
+            boolean flag) {
         switch (kind) {
             case 0: return house.put(a, b);
             case 1: return house.remove(a, i);
@@ -132,30 +133,6 @@ public final class RandomRunsTest {
             case 16: return house.parties(flag);
             case 17: return house.astray();
             default: return house.together(a, a);
-        }
-    }
-
-    private int askSlow(int kind, int a, int b, int i, int j, boolean flag) {
-        switch (kind) {
-            case 0: return slow.put(a, b);
-            case 1: return slow.remove(a, i);
-            case 2: return slow.move(a, i, j);
-            case 3: return slow.at(a, i);
-            case 4: return slow.place(a, b);
-            case 5: return slow.pair(a, b);
-            case 6: return slow.partner(a);
-            case 7: return slow.blocking();
-            case 8: return slow.satisfy();
-            case 9: return slow.size();
-            case 10: return slow.matchings();
-            case 11: return slow.matched(a);
-            case 12: return slow.extreme(a, flag);
-            case 13: return slow.together(a, b);
-            case 14: return slow.party(a);
-            case 15: return slow.next(a);
-            case 16: return slow.parties(flag);
-            case 17: return slow.astray();
-            default: return slow.together(a, a);
         }
     }
 }

@@ -1,95 +1,133 @@
-/** Promises 12 to 15: the stable matchings. */
+/** Promises 12 to 15: the stable matchings, a test for each sentence. */
 public final class StableTest {
     private static final Check CHECK = new Check();
 
     public static void main(String[] args) {
-        nobodyIsPossible();
-        oneWayIsNotPossible();
-        aSingleOneIsLeftOver();
-        twoMatchings();
-        theFirstIsChosenPersonByPerson();
-        manyMatchings();
-        noneIsStable();
-        changesAreSeen();
-        wrongPersons();
+        CHECK.sentence("Promise 12: How many stable matchings there are.",
+                StableTest::matchingsCountsThem);
+        CHECK.sentence("Promise 13: A person's partner in the matching",
+                StableTest::matchedTellsThePartner);
+        CHECK.sentence("Promise 13: itself when it is single there",
+                StableTest::matchedTellsItselfWhenSingle);
+        CHECK.sentence("Promise 13: NONE when there is no stable one.",
+                StableTest::matchedTellsNone);
+        CHECK.sentence("Promise 14: The partner that a person prefers of all that it has in "
+                + "stable matchings", StableTest::extremeTellsTheBest);
+        CHECK.sentence("Promise 14: or (on worst) the last of them",
+                StableTest::extremeTellsTheWorst);
+        CHECK.sentence("Promise 14: itself when it is single",
+                StableTest::extremeTellsItselfWhenSingle);
+        CHECK.sentence("Promise 14: NONE when there is no stable one.",
+                StableTest::extremeTellsNone);
+        CHECK.sentence("Promise 15: In how many stable matchings two are partners",
+                StableTest::togetherCountsPartners);
+        CHECK.sentence("Promise 15: (a person with itself: single)",
+                StableTest::togetherCountsSingle);
+        CHECK.sentence("Promises 12 to 15, behind each change of lists",
+                StableTest::changesOfListsAreSeen);
         CHECK.finish();
     }
 
-    private static void nobodyIsPossible() {
-        RoommateHouse house = Houses.of("", "", "");
-        CHECK.is("all single is stable", 1, house::matchings);
-        CHECK.same("matched", Houses.matching(house), "012");
-        CHECK.same("best", Houses.extremes(house, false), "012");
-        CHECK.same("worst", Houses.extremes(house, true), "012");
-        CHECK.is("single", 1, () -> house.together(2, 2));
-        CHECK.is("not together", 0, () -> house.together(1, 2));
+    /** Four and four, each side's likings the other one's turned round. */
+    private static RoommateHouse fourAndFour() {
+        return Houses.of("4567", "5476", "6745", "7654", "3210", "2301", "1032", "0123");
     }
 
-    private static void oneWayIsNotPossible() {
-        RoommateHouse house = Houses.of("21", "0", "");
-        CHECK.is("matchings", 1, house::matchings);
-        CHECK.same("matched", Houses.matching(house), "102");
-        CHECK.same("best", Houses.extremes(house, false), "102");
-        CHECK.is("together", 1, () -> house.together(1, 0));
+    /** Two ways for four, and each of the two twice. */
+    private static RoommateHouse twoByTwo() {
+        return Houses.of("23", "32", "10", "01", "67", "76", "54", "45");
     }
 
-    private static void aSingleOneIsLeftOver() {
-        RoommateHouse house = Houses.of("12", "02", "01");
-        CHECK.is("matchings", 1, house::matchings);
-        CHECK.same("matched", Houses.matching(house), "102");
-        CHECK.same("worst", Houses.extremes(house, true), "102");
-        CHECK.is("single", 1, () -> house.together(2, 2));
-        CHECK.is("never single", 0, () -> house.together(0, 0));
+    private static RoommateHouse threeGoRoundAndOneIsLast() {
+        return Houses.of("123", "203", "013", "012");
     }
 
-    private static void twoMatchings() {
+    private static void matchingsCountsThem() {
+        CHECK.is("no persons: the empty one", 1, () -> new RoommateHouse().matchings());
+        CHECK.is("one person: alone", 1, () -> Houses.of("").matchings());
+        CHECK.is("8 persons, empty lists: all single", 1,
+                () -> Houses.of("", "", "", "", "", "", "", "").matchings());
+        CHECK.is("two: together", 1, () -> Houses.of("1", "0").matchings());
+        CHECK.is("three that go round", 0, () -> Houses.of("12", "20", "01").matchings());
+        CHECK.is("none", 0, () -> threeGoRoundAndOneIsLast().matchings());
+        CHECK.is("two", 2, () -> Houses.of("132", "203", "310", "021").matchings());
+        CHECK.is("two by two", 4, () -> twoByTwo().matchings());
+        CHECK.is("the most for four and four", 10, () -> fourAndFour().matchings());
+    }
+
+    private static void matchedTellsThePartner() {
+        CHECK.same("of the only one", Houses.matching(Houses.of("12", "02", "01")), "102");
+        CHECK.same("of two", Houses.matching(Houses.of("132", "203", "310", "021")), "1032");
+        CHECK.same("of four", Houses.matching(twoByTwo()), "23016745");
+        CHECK.same("of ten", Houses.matching(fourAndFour()), "45670123");
+    }
+
+    private static void matchedTellsItselfWhenSingle() {
+        CHECK.same("the only person", Houses.matching(Houses.of("")), "0");
+        CHECK.same("all of 8", Houses.matching(Houses.of("", "", "", "", "", "", "", "")),
+                "01234567");
+        CHECK.same("who is left over", Houses.matching(Houses.of("12", "02", "01")), "102");
+        CHECK.same("whom nobody has on its list", Houses.matching(Houses.of("21", "0", "")), "102");
+    }
+
+    private static void matchedTellsNone() {
+        CHECK.same("who goes round", Houses.matching(Houses.of("12", "20", "01")), "---");
+        CHECK.same("others too", Houses.matching(Houses.of("12", "20", "01", "4", "3")), "-----");
+        CHECK.same("single ones too", Houses.matching(Houses.of("12", "20", "01", "")), "----");
+    }
+
+    private static void extremeTellsTheBest() {
+        CHECK.same("of one", Houses.best(Houses.of("12", "02", "01")), "102");
+        CHECK.same("of two", Houses.best(Houses.of("132", "203", "310", "021")), "1230");
+        CHECK.same("of four", Houses.best(twoByTwo()), "23106754");
+        CHECK.same("of ten", Houses.best(fourAndFour()), "45673210");
+        CHECK.same("not the best on the list", Houses.best(Houses.of("12", "20", "10")), "021");
+    }
+
+    private static void extremeTellsTheWorst() {
+        CHECK.same("of one", Houses.worst(Houses.of("12", "02", "01")), "102");
+        CHECK.same("of two", Houses.worst(Houses.of("132", "203", "310", "021")), "3012");
+        CHECK.same("of four", Houses.worst(twoByTwo()), "32017645");
+        CHECK.same("of ten", Houses.worst(fourAndFour()), "76540123");
+        CHECK.same("not the last on the list", Houses.worst(Houses.of("12", "20", "10")), "021");
+    }
+
+    private static void extremeTellsItselfWhenSingle() {
+        RoommateHouse house = Houses.of("21", "0", "", "");
+        CHECK.same("best", Houses.best(house), "1023");
+        CHECK.same("worst", Houses.worst(house), "1023");
+        RoommateHouse leftOver = Houses.of("12", "02", "01");
+        CHECK.is("best, with a full list", 2, () -> leftOver.extreme(2, false));
+        CHECK.is("worst, with a full list", 2, () -> leftOver.extreme(2, true));
+    }
+
+    private static void extremeTellsNone() {
+        RoommateHouse house = Houses.of("12", "20", "01", "4", "3", "");
+        CHECK.same("best", Houses.best(house), "------");
+        CHECK.same("worst", Houses.worst(house), "------");
+    }
+
+    private static void togetherCountsPartners() {
+        RoommateHouse four = fourAndFour();
+        CHECK.same("0 in ten", Houses.together(four, 0), "00002332");
+        CHECK.same("7 in ten", Houses.together(four, 7), "23320000");
         RoommateHouse house = Houses.of("132", "203", "310", "021");
-        CHECK.is("matchings", 2, house::matchings);
-        CHECK.same("matched", Houses.matching(house), "1032");
-        CHECK.same("best", Houses.extremes(house, false), "1230");
-        CHECK.same("worst", Houses.extremes(house, true), "3012");
-        CHECK.is("together", 1, () -> house.together(0, 3));
-        CHECK.is("together the other way", 1, () -> house.together(3, 0));
-        CHECK.is("never together", 0, () -> house.together(0, 2));
+        CHECK.is("in one of two", 1, () -> house.together(0, 3));
+        CHECK.is("the other way round", 1, () -> house.together(3, 0));
+        CHECK.is("in none, though possible", 0, () -> house.together(0, 2));
+        CHECK.is("in all", 2, () -> Houses.of("1", "0", "45", "54", "32", "23").together(0, 1));
+        CHECK.is("no stable one", 0, () -> threeGoRoundAndOneIsLast().together(0, 1));
     }
 
-    private static void theFirstIsChosenPersonByPerson() {
-        RoommateHouse later = Houses.of("1", "0", "45", "54", "32", "23");
-        CHECK.is("0 and 1 have no choice", 2, later::matchings);
-        CHECK.same("2 chooses", Houses.matching(later), "104523");
-        RoommateHouse apart = Houses.of("23", "32", "10", "01", "67", "76", "54", "45");
-        CHECK.is("two free choices", 4, apart::matchings);
-        CHECK.same("0 chooses, then 4", Houses.matching(apart), "23016745");
-        CHECK.same("the others' best", Houses.extremes(apart, false), "23106754");
-        CHECK.is("each in half of them", 2, () -> apart.together(4, 7));
+    private static void togetherCountsSingle() {
+        CHECK.is("the only person", 1, () -> Houses.of("").together(0, 0));
+        RoommateHouse house = Houses.of("132", "203", "310", "021", "");
+        CHECK.is("single in all", 2, () -> house.together(4, 4));
+        CHECK.is("single in none", 0, () -> house.together(0, 0));
+        CHECK.is("no stable one", 0, () -> threeGoRoundAndOneIsLast().together(3, 3));
     }
 
-    private static void manyMatchings() {
-        RoommateHouse house = Houses.of("4567", "5476", "6745", "7654",
-                "3210", "2301", "1032", "0123");
-        CHECK.is("the most for four and four", 10, house::matchings);
-        CHECK.same("matched", Houses.matching(house), "45670123");
-        CHECK.same("best", Houses.extremes(house, false), "45673210");
-        CHECK.same("worst", Houses.extremes(house, true), "76540123");
-        int sum = 0;
-        for (int other = 0; other < 8; other++) {
-            sum += house.together(0, other);
-        }
-        int all = sum;
-        CHECK.is("each has one partner in each", 10, () -> all);
-    }
-
-    private static void noneIsStable() {
-        RoommateHouse house = Houses.of("123", "203", "013", "012");
-        CHECK.is("matchings", 0, house::matchings);
-        CHECK.same("matched", Houses.matching(house), "-1-1-1-1");
-        CHECK.same("best", Houses.extremes(house, false), "-1-1-1-1");
-        CHECK.same("worst", Houses.extremes(house, true), "-1-1-1-1");
-        CHECK.is("together", 0, () -> house.together(0, 1));
-        CHECK.is("single", 0, () -> house.together(3, 3));
-    }
-
-    private static void changesAreSeen() {
+    private static void changesOfListsAreSeen() {
         RoommateHouse house = Houses.of("12", "20", "01");
         CHECK.is("none", 0, house::matchings);
         house.move(0, 0, 1);
@@ -99,18 +137,9 @@ public final class StableTest {
         house.put(0, 2);
         CHECK.is("behind put", 0, house::matchings);
         house.pair(0, 1);
+        house.satisfy();
         CHECK.is("the draft does not matter", 0, house::matchings);
-    }
-
-    private static void wrongPersons() {
-        RoommateHouse house = Houses.of("1", "0");
-        int[] wrong = {-1, 2, Integer.MIN_VALUE, Integer.MAX_VALUE};
-        for (int person : wrong) {
-            CHECK.outOfBounds("matched", () -> house.matched(person));
-            CHECK.outOfBounds("best", () -> house.extreme(person, false));
-            CHECK.outOfBounds("worst", () -> house.extreme(person, true));
-            CHECK.outOfBounds("together, one", () -> house.together(person, 0));
-            CHECK.outOfBounds("together, other", () -> house.together(0, person));
-        }
+        house.people(3);
+        CHECK.same("behind people", Houses.matching(house), "012");
     }
 }

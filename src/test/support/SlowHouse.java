@@ -6,7 +6,7 @@ import java.util.List;
  * The document's terms written down as they stand, without any thought of speed: every matching
  * and every order of going round is made and looked at.
  */
-final class SlowHouse {
+final class SlowHouse implements House {
     private List<List<Integer>> lists = new ArrayList<>();
     private int[] draft = {};
     private List<int[]> stable;
@@ -54,7 +54,8 @@ final class SlowHouse {
         }
     }
 
-    int people(int n) {
+    @Override
+    public int people(int n) {
         if (n < 0 || n > 8) {
             throw new IllegalArgumentException();
         }
@@ -69,7 +70,8 @@ final class SlowHouse {
         return before;
     }
 
-    int put(int p, int o) {
+    @Override
+    public int put(int p, int o) {
         person(p);
         person(o);
         if (p == o) {
@@ -83,7 +85,8 @@ final class SlowHouse {
         return lists.get(p).size();
     }
 
-    int remove(int p, int i) {
+    @Override
+    public int remove(int p, int i) {
         person(p);
         within(i, lists.get(p).size());
         int who = lists.get(p).remove(i);
@@ -91,7 +94,8 @@ final class SlowHouse {
         return who;
     }
 
-    int move(int p, int i, int j) {
+    @Override
+    public int move(int p, int i, int j) {
         person(p);
         within(i, lists.get(p).size());
         within(j, lists.get(p).size());
@@ -101,7 +105,8 @@ final class SlowHouse {
         return who;
     }
 
-    int at(int p, int i) {
+    @Override
+    public int at(int p, int i) {
         person(p);
         if (i < 0) {
             throw new IndexOutOfBoundsException();
@@ -109,13 +114,15 @@ final class SlowHouse {
         return i < lists.get(p).size() ? lists.get(p).get(i) : -1;
     }
 
-    int place(int p, int o) {
+    @Override
+    public int place(int p, int o) {
         person(p);
         person(o);
         return lists.get(p).indexOf(o);
     }
 
-    int pair(int a, int b) {
+    @Override
+    public int pair(int a, int b) {
         person(a);
         person(b);
         if (a == b) {
@@ -138,12 +145,14 @@ final class SlowHouse {
         draft[b] = a;
     }
 
-    int partner(int p) {
+    @Override
+    public int partner(int p) {
         person(p);
         return draft[p];
     }
 
-    int blocking() {
+    @Override
+    public int blocking() {
         int found = 0;
         for (int a = 0; a < count(); a++) {
             for (int b = a + 1; b < count(); b++) {
@@ -153,7 +162,8 @@ final class SlowHouse {
         return found;
     }
 
-    int satisfy() {
+    @Override
+    public int satisfy() {
         for (int code = 0; code < 64; code++) {
             int a = code / 8;
             int b = code % 8;
@@ -249,11 +259,13 @@ final class SlowHouse {
         oddParties = odd;
     }
 
-    int matchings() {
+    @Override
+    public int matchings() {
         return stable().size();
     }
 
-    int matched(int p) {
+    @Override
+    public int matched(int p) {
         person(p);
         if (stable().isEmpty()) {
             return -1;
@@ -276,18 +288,21 @@ final class SlowHouse {
         return false;
     }
 
-    int extreme(int p, boolean worst) {
+    @Override
+    public int extreme(int p, boolean worst) {
         person(p);
         int found = -1;
         for (int[] mates : stable()) {
-            if (found == -1 || (worst ? prefers(p, found, mates[p]) : prefers(p, mates[p], found))) {
+            if (found == -1
+                    || (worst ? prefers(p, found, mates[p]) : prefers(p, mates[p], found))) {
                 found = mates[p];
             }
         }
         return found;
     }
 
-    int together(int a, int b) {
+    @Override
+    public int together(int a, int b) {
         person(a);
         person(b);
         int found = 0;
@@ -297,17 +312,20 @@ final class SlowHouse {
         return found;
     }
 
-    int party(int p) {
+    @Override
+    public int party(int p) {
         person(p);
         return oddParties()[0][p];
     }
 
-    int next(int p) {
+    @Override
+    public int next(int p) {
         person(p);
         return oddParties()[1][p];
     }
 
-    int parties(boolean three) {
+    @Override
+    public int parties(boolean three) {
         int[] members = new int[9];
         for (int size : oddParties()[0]) {
             members[size]++;
@@ -319,11 +337,13 @@ final class SlowHouse {
         return found;
     }
 
-    int size() {
+    @Override
+    public int size() {
         return count();
     }
 
-    int astray() {
+    @Override
+    public int astray() {
         return 0;
     }
 }
