@@ -94,17 +94,28 @@ public final class PartiesTest {
 
     private static void changesOfListsAreSeen() {
         RoommateHouse house = Houses.of("12", "20", "01");
-        CHECK.same("three", Houses.nextOnes(house), "120");
+        told("at first", house, "333", "120", 1, 1);
         house.move(0, 1, 0);
-        CHECK.same("behind move", Houses.nextOnes(house), "-1-");
+        told("behind move", house, "010", "-1-", 1, 0);
         house.remove(0, 0);
-        CHECK.same("behind remove", Houses.nextOnes(house), "0--");
+        told("behind remove", house, "100", "0--", 1, 0);
         house.put(0, 2);
-        CHECK.same("behind put", Houses.nextOnes(house), "120");
+        told("behind put", house, "333", "120", 1, 1);
         house.pair(0, 1);
         house.satisfy();
-        CHECK.same("the draft does not matter", Houses.nextOnes(house), "120");
+        told("the draft does not matter", house, "333", "120", 1, 1);
         house.people(3);
-        CHECK.same("behind people", Houses.nextOnes(house), "012");
+        told("behind people", house, "111", "012", 3, 0);
+        house.put(0, 2);
+        house.put(2, 0);
+        told("with shorter lists than before", house, "010", "-1-", 1, 0);
+    }
+
+    private static void told(String when, RoommateHouse house, String sizes, String nextOnes,
+            int all, int ofThree) {
+        CHECK.same(when + ", party", Houses.partySizes(house), sizes);
+        CHECK.same(when + ", next", Houses.nextOnes(house), nextOnes);
+        CHECK.is(when + ", parties", all, () -> house.parties(false));
+        CHECK.is(when + ", parties of three or more", ofThree, () -> house.parties(true));
     }
 }

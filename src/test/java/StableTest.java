@@ -25,6 +25,8 @@ public final class StableTest {
                 StableTest::togetherCountsSingle);
         CHECK.sentence("Promises 12 to 15, behind each change of lists",
                 StableTest::changesOfListsAreSeen);
+        CHECK.sentence("Promises 12 to 15, behind each change of lists, of 8 persons",
+                StableTest::changesAreSeenAmongAll);
         CHECK.finish();
     }
 
@@ -131,15 +133,43 @@ public final class StableTest {
         RoommateHouse house = Houses.of("12", "20", "01");
         CHECK.is("none", 0, house::matchings);
         house.move(0, 0, 1);
-        CHECK.same("behind move", Houses.matching(house), "210");
+        told("behind move", house, 1, "210", "010");
         house.remove(0, 0);
-        CHECK.same("behind remove", Houses.matching(house), "021");
+        told("behind remove", house, 1, "021", "001");
         house.put(0, 2);
-        CHECK.is("behind put", 0, house::matchings);
+        told("behind put", house, 0, "---", "000");
         house.pair(0, 1);
         house.satisfy();
-        CHECK.is("the draft does not matter", 0, house::matchings);
+        told("the draft does not matter", house, 0, "---", "000");
         house.people(3);
-        CHECK.same("behind people", Houses.matching(house), "012");
+        told("behind people", house, 1, "012", "010");
+        house.put(0, 2);
+        house.put(2, 0);
+        told("with shorter lists than before", house, 1, "210", "010");
+    }
+
+    /** For houses that have at most one stable matching, which is then everybody's extreme too. */
+    private static void told(String when, RoommateHouse house, int many, String mates,
+            String together) {
+        CHECK.is(when + ", matchings", many, house::matchings);
+        CHECK.same(when + ", matched", Houses.matching(house), mates);
+        CHECK.same(when + ", best", Houses.best(house), mates);
+        CHECK.same(when + ", worst", Houses.worst(house), mates);
+        CHECK.same(when + ", together with 1", Houses.together(house, 1), together);
+    }
+
+    private static void changesAreSeenAmongAll() {
+        RoommateHouse house = fourAndFour();
+        CHECK.same("0 in ten", Houses.together(house, 0), "00002332");
+        CHECK.same("3 in ten", Houses.together(house, 3), "00002332");
+        house.move(0, 3, 0);
+        CHECK.is("0 and 7 would have each other first", 3, house::matchings);
+        CHECK.same("0 in three", Houses.together(house, 0), "00000003");
+        CHECK.same("3 in three", Houses.together(house, 3), "00001110");
+        CHECK.same("7 in three", Houses.together(house, 7), "30000000");
+        house.people(8);
+        CHECK.is("behind people", 1, house::matchings);
+        CHECK.same("all are single", Houses.together(house, 0), "10000000");
+        CHECK.same("the last person too", Houses.together(house, 7), "00000001");
     }
 }
